@@ -771,11 +771,11 @@ public final class CellsInRow {
             return given;
         }
 
-        /** The search begins with the cell that asks, which is never a bridged one. */
+        /** From the last to the first, so that of several the first is left; the one that asks is never bridged. */
         int poorest(int asking) {
             int best = asking;
             for (int c = cells - 1; c >= 0; c--) {
-                if (c != bridged && (charge[c] < charge[best] || charge[c] == charge[best] && c < best)) {
+                if (c != bridged && charge[c] <= charge[best]) {
                     best = c;
                 }
             }
@@ -785,7 +785,7 @@ public final class CellsInRow {
         int richest(int asking) {
             int best = asking;
             for (int c = cells - 1; c >= 0; c--) {
-                if (c != bridged && (charge[c] > charge[best] || charge[c] == charge[best] && c < best)) {
+                if (c != bridged && charge[c] >= charge[best]) {
                     best = c;
                 }
             }

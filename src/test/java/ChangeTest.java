@@ -30,6 +30,10 @@ public final class ChangeTest {
             Due.is("9 alter(" + b[0] + ", " + b[1] + ", " + b[2] + ")", x.alter(b[0], b[1], b[2]), -1);
         }
         Due.is("9 the other stays", x.unit(1, 2), 5);
+        Due.is("9 kind 0", x.alter(1, 0, 0), 3);
+        Due.is("9 charge 0", x.alter(1, 2, 0), 5);
+        Due.is("9 room 1", x.alter(1, 1, 1), 5);
+        Due.is("9 leak 0", x.alter(0, 3, 0), 9);
     }
 
     private static void signs() {
@@ -88,6 +92,8 @@ public final class ChangeTest {
         sent("share 9 9 0;plain 20 4 0;plain 20 4 0;", 11, 0, 0, 0, 9, 8, 6);
         sent("plain 20 4 0;plain 20 6 0;share 9 9 0;", 11, 0, 0, 0, 8, 8, 9);
         sent("pump 9 9 0;plain 20 4 0;plain 20 5 0;", 11, 0, 0, 0, 9, 8, 7);
+        // a rest of one is shared as well
+        sent("share 9 8 0;plain 20 4 0;", 11, 0, 0, 0, 9, 7);
         // poorest by charge, not by room left
         sent("pump 9 9 0;bleed 4 4 0;plain 30 5 0;", 10, 0, 0, 2, 9, 4, 6);
         sent("plain 9 1 0;plain 9 9 0;", 10, 1, 0, 0, 1, 9);
@@ -104,6 +110,11 @@ public final class ChangeTest {
         sent("pump 9 0 0;plain 20 9 0;plain 20 9 0;", 6, 0, 3, 0, 0, 3, 6);
         sent("plain 20 6 0;plain 20 8 0;pump 9 0 0;", 6, 0, 3, 0, 3, 2, 0);
         sent("pump 9 0 0;plain 20 8 0;bleed 20 9 0;", 6, 0, 3, 0, 0, 5, 3);
+        sent("pump 9 2 0;plain 20 15 0;", 4, 0, 5, 0, 0, 7);
+        sent("pump 9 2 0;plain 20 15 0;", 6, 0, 3, 0, 0, 11);
+        // a plain one that was emptied by the one ahead draws from none
+        sent("pump 9 0 0;plain 20 8 0;plain 20 6 0;", 4, 0, 5, 0, 0, 0, 1);
+        sent("plain 30 9 0;plain 30 9 0;pump 9 0 0;plain 30 9 0;plain 30 20 0;", 0, 0, 9, 0, 0, 0, 0, 0, 2);
         sent("", 0, 0, 0, 0);
         sent("plain 9 5 3;", 9, 0, 0, 0, 5);
     }
@@ -144,6 +155,7 @@ public final class ChangeTest {
         Due.is("done", x.rule(5), 9999);
         x.send(0);
         Due.is("done, 9999 at most", x.rule(5), 9999);
+        Due.is("14 DONE is no more then", x.hours(100), 0);
         Due.is("15 runs are counted beyond", x.runs(200, 0), 1800);
         x = Due.told("plain 1 0 0;plan 0;");
         for (int i = 0; i < 99; i++) {

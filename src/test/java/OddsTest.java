@@ -42,6 +42,7 @@ public final class OddsTest {
         meanIs(pump, 3, 1, 7, 2);
         meanIs(pump, 3, 8, 28, 1);
         meanIs(pump, 10, 8, 0, 1);
+        meanIs(pump, 9, 1, 1, 2);
         // an hour that stops does nothing, what is behind it goes on: 3 now, or 3 then, not both
         CellsInRow plain = Due.told("plain 9 3 0;plan 6;");
         meanIs(plain, 1, 1, 27, 10);
@@ -78,6 +79,7 @@ public final class OddsTest {
         x.set(0, 0);
         x.alter(0, 2, 0);
         Due.is("30 without the plan", x.drift(5, 200, 1), was);
+        Due.that("30 200 hours", was >= 0);
         CellsInRow leaky = Due.told("bleed 99 99 9;");
         Due.is("30 it leaks", leaky.drift(3, 200, 1) < 99 ? 1 : 0, 1);
         Due.is("30 drift(5, 0, 0)", x.drift(5, 0, 0), -1);

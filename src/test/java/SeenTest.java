@@ -120,5 +120,15 @@ public final class SeenTest {
         z.hours(1);
         z.alter(0, 2, 0);
         Due.is("29 when the plan has come round", z.ask(0, 0), 13);
+        // 9 up comes in hours 0, 13, 26, 39; cell 1, with room for 6, 7, 8, 9 then, lets the last pass
+        z = Due.told("plain 99 0 0;plain 99 93 1;plan 18 9 9 9 13 9 9 9 13 9 9 9 13;");
+        Due.is("29 behind 40", z.ask(0, 0), 40);
+        z.alter(1, 2, 94);
+        Due.is("29 behind 53 would be too late", z.ask(0, 0), 5);
+        // what an earlier question found is not taken for what is now
+        z = Due.told("plain 20 10 0;");
+        Due.is("29 all apart", z.ask(0, 1), 1);
+        z.alter(0, 2, 7);
+        Due.is("29 leaks of 7, 8, 9 alike", z.ask(0, 1), 3);
     }
 }

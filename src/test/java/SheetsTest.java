@@ -48,6 +48,16 @@ public final class SheetsTest {
         Due.that("32 the later one", java.util.Arrays.equals(then, state(x)));
         x.hours(1);
         Due.is("32 an image stays", x.back(0), 12);
+        CellsInRow y = Due.told("plain 20 10 3;plain 20 10 5;");
+        y.see(1, 1, 6);
+        y.keep(0);
+        y.forget(0);
+        y.see(2, 0, 4);
+        y.keep(1);
+        Due.is("32 back(0)", y.back(0), 0);
+        Due.is("28 as seen then", y.leaks(1), 16);
+        Due.is("32 back(1)", y.back(1), 0);
+        Due.is("28 as seen later", y.leaks(0), 8);
     }
 
     private static int[] state(CellsInRow x) {

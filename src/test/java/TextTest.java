@@ -61,8 +61,11 @@ public final class TextTest {
         Due.is("4 sixteen signs", Due.tell(x, "plan 0 1 2 3 4 5 6 7 8 9 10 11 12 13 14 18;"), 1);
         Due.is("4 signs", x.rule(1), 16);
         Due.is("4 last sign", x.sign(15), 18);
+        Due.is("37 sixteen signs", x.count(5), 123);
         Due.is("4 five cells", Due.tell(x, "pump 1 0 0;share 2 0 0;bleed 3 0 0;plain 4 0 0;plain 5 0 0;"), 5);
         Due.is("4 cells", x.rule(0), 5);
+        Due.is("6 charges of five", x.rule(6), 0);
+        Due.is("37 rooms of five", x.count(4), 15);
         Due.is("4 signs are gone", x.rule(1), 0);
     }
 
@@ -87,6 +90,10 @@ public final class TextTest {
 
     private static void unread() {
         faultIs("Plain 1 0 0;", 0, 1);
+        faultIs("{;", 0, 1);
+        faultIs("`;", 0, 1);
+        faultIs("/;", 0, 1);
+        faultIs(":;", 0, 1);
         faultIs("plain 100 0 0;", 6, 1);
         faultIs("plain 001 0 0;", 6, 1);
         faultIs("plain 9 0 0,", 11, 1);
@@ -105,6 +112,10 @@ public final class TextTest {
     private static void misplaced() {
         faultIs("plains 1 0 0;", 0, 2);
         faultIs("plai 1 0 0;", 0, 2);
+        faultIs("xlain 1 0 0;", 0, 2);
+        faultIs("plaim 1 0 0;", 0, 2);
+        faultIs(" a;", 1, 2);
+        faultIs(" z;", 1, 2);
         faultIs("pla 1;", 0, 2);
         faultIs("planpump 1 0 0;", 0, 2);
         faultIs("plan", 4, 2);
@@ -165,6 +176,11 @@ public final class TextTest {
         Due.is("4 image 0 is gone", x.back(0), -2);
         Due.is("4 image 1 is gone", x.back(1), -2);
         Due.is("4 sheets stay", x.count(3), 3);
+        x.keep(0);
+        x.hours(2);
+        Due.is("4 blanks are a text, too", Due.tell(x, " "), 0);
+        Due.is("4 no cells are told", x.rule(0) + x.rule(2), 0);
+        Due.is("4 no image", x.count(1), 0);
         Due.is("4 torn stays", x.torn(), 3);
     }
 
