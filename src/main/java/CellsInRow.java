@@ -163,9 +163,7 @@ public final class CellsInRow {
         if (now.hour + n > MOST_COUNTED) {
             return FULL;
         }
-        int before = now.done;
-        now.passHours(n);
-        return now.done - before;
+        return now.passHours(n);
     }
 
     public int runs(int n, int what) {
@@ -737,10 +735,13 @@ public final class CellsInRow {
                     giveFrom(c, -current);
                 }
             }
-            if (current < 0 && cells > 0) {
-                done = Math.min(MOST_COUNTED, done - current);
-            }
+            done = Math.min(MOST_COUNTED, done + doneBy(current));
             return false;
+        }
+
+        /** What is DONE by a current that does not stop. */
+        int doneBy(int current) {
+            return current < 0 && cells > 0 ? -current : 0;
         }
 
         void takeInto(int c, int amount) {
@@ -792,18 +793,22 @@ public final class CellsInRow {
             return best;
         }
 
-        void passHour(int current) {
-            stoppedBySending(current);
+        /** What is DONE in it, which the bound of DONE in all does not touch. */
+        int passHour(int current) {
+            boolean stopped = stoppedBySending(current);
             for (int c = 0; c < cells; c++) {
                 charge[c] = Math.max(0, charge[c] - leak[c]);
             }
             hour++;
+            return stopped ? 0 : doneBy(current);
         }
 
-        void passHours(int n) {
+        int passHours(int n) {
+            int doneInThem = 0;
             for (int i = 0; i < n; i++) {
-                passHour(current());
+                doneInThem += passHour(current());
             }
+            return doneInThem;
         }
 
         int chargesSummed() {
@@ -905,15 +910,15 @@ public final class CellsInRow {
             return Math.min(n, (length - f) / 2);
         }
 
-        /** Nothing may be taken as of any lane, and is found out by the first place that is read. */
+        /** Where no place is read the machine finds nothing: the sheet is not even taken as of a lane. */
         int tornBy(int asLane, int whole, int n) {
-            if (there && lane != asLane) {
-                return TORN_CAST;
-            }
             if (whole == n) {
                 return NOTHING_TORN;
             }
-            return there ? TORN_INDEX : TORN_NULL;
+            if (!there) {
+                return TORN_NULL;
+            }
+            return lane != asLane ? TORN_CAST : TORN_INDEX;
         }
     }
 

@@ -151,11 +151,21 @@ public final class ChangeTest {
         for (int i = 0; i < 11; i++) {
             Due.is("done in 100 hours", x.hours(100), 900);
         }
-        x.hours(11);
-        Due.is("done", x.rule(5), 9999);
-        x.send(0);
+        x.hours(10);
+        Due.is("done", x.rule(5), 9990);
+        Due.is("14 done in hours that come beyond 9999 in all", x.hours(2), 18);
         Due.is("done, 9999 at most", x.rule(5), 9999);
-        Due.is("14 DONE is no more then", x.hours(100), 0);
+        x.send(0);
+        Due.is("done, 9999 at most, by send, too", x.rule(5), 9999);
+        Due.is("14 done in hours beyond 9999 in all", x.hours(100), 900);
+        Due.is("done, 9999 at most, again", x.rule(5), 9999);
+        x.keep(0);
+        x.back(0);
+        Due.is("32 done, of an image", x.rule(5), 9999);
+        Due.is("14 nothing is done in no hours", x.hours(0), 0);
+        x.alter(0, 0, 0);
+        Due.is("14 nothing is done where it stops", x.hours(1), 0);
+        x.alter(0, 0, 3);
         Due.is("15 runs are counted beyond", x.runs(200, 0), 1800);
         x = Due.told("plain 1 0 0;plan 0;");
         for (int i = 0; i < 99; i++) {

@@ -368,13 +368,12 @@ final class Model {
             return FULL;
         }
         int before = now.done;
-        limited(() -> {
+        return limited(() -> {
             for (int i = 0; i < n; i++) {
                 now.hour(now.current());
             }
-            return 0;
+            return now.done - before;
         });
-        return now.done - before;
     }
 
     private static int runs(World w, int what) {
@@ -550,10 +549,10 @@ final class Model {
         int came = 0;
         int found = 0;
         try {
-            byte[] b = lane == 0 ? (byte[]) sheets[k] : null;
-            short[] s = lane == 1 ? (short[]) sheets[k] : null;
-            int[] i = lane == 2 ? (int[]) sheets[k] : null;
             for (; came < n; came++) {
+                byte[] b = lane == 0 ? (byte[]) sheets[k] : null;
+                short[] s = lane == 1 ? (short[]) sheets[k] : null;
+                int[] i = lane == 2 ? (int[]) sheets[k] : null;
                 int at = f + 2 * came;
                 int which = lane == 0 ? b[at] : lane == 1 ? s[at] : i[at];
                 int v = lane == 0 ? b[at + 1] : lane == 1 ? s[at + 1] : i[at + 1];

@@ -33,6 +33,9 @@ public final class ModelTest {
 
     private void run(Method[] methods, int seed) throws Exception {
         tell(methods);
+        if (seed % 7 == 0) {
+            runFar(methods, seed);
+        }
         while (calls < 505) {
             int turn = random.nextInt(60);
             if (turn == 0 && calls < 300) {
@@ -47,6 +50,23 @@ public final class ModelTest {
         }
     }
 
+    /** Brings what is counted near its bounds, which hours by chance hardly ever do. */
+    private void runFar(Method[] methods, int seed) throws Exception {
+        ask(named("cut", methods), new int[] {1}, seed);
+        ask(named("set", methods), new int[] {0, random.nextBoolean() ? 0 : 18}, seed);
+        for (int c = 0; c < 5; c++) {
+            ask(named("alter", methods), new int[] {c, 0, 3}, seed);
+        }
+        int times = random.nextBoolean() ? 8 + random.nextInt(8) : random.nextInt(100);
+        for (int i = 0; i < times; i++) {
+            ask(named("hours", methods), new int[] {100}, seed);
+        }
+    }
+
+    private static Method named(String name, Method[] methods) {
+        return Arrays.stream(methods).filter(m -> m.getName().equals(name)).findFirst().orElseThrow();
+    }
+
     private void ask(Method m, int[] a, int seed) throws Exception {
         Object[] boxed = Arrays.stream(a).boxed().toArray();
         calls++;
@@ -58,21 +78,11 @@ public final class ModelTest {
     }
 
     private void tell(Method[] methods) throws Exception {
-        String text = textOf();
-        for (Method m : methods) {
-            if (m.getName().equals("feed")) {
-                for (char c : text.toCharArray()) {
-                    ask(m, new int[] {c}, 0);
-                }
-            }
+        for (char c : textOf().toCharArray()) {
+            ask(named("feed", methods), new int[] {c}, 0);
         }
-        for (String name : new String[] {"text", "fault"}) {
-            for (Method m : methods) {
-                if (m.getName().equals(name)) {
-                    ask(m, new int[0], 0);
-                }
-            }
-        }
+        ask(named("text", methods), new int[0], 0);
+        ask(named("fault", methods), new int[0], 0);
     }
 
     private String textOf() {

@@ -158,7 +158,7 @@ public final class SheetsTest {
         Due.is("36 NULL", x.torn(), 1);
         Due.is("35 of nothing, beyond", x.read(1, 2, 99, 1), 0);
         Due.is("36 NULL", x.torn(), 1);
-        // a machine finds nothing only when a place of it is read
+        // what is not there is found only when a place of it is read
         Due.is("35 nothing read of nothing", x.read(1, 0, 0, 0), 0);
         Due.is("36 none", x.torn(), 0);
         Due.is("35 another lane", x.read(2, 1, 0, 1), 0);
@@ -168,9 +168,20 @@ public final class SheetsTest {
         Due.is("36 none", x.torn(), 0);
         Due.is("35 another lane, beyond", x.read(2, 2, -9, 1), 0);
         Due.is("36 CAST is found ahead of INDEX", x.torn(), 3);
-        x.read(2, 0, 0, 1);
-        Due.is("35 another lane, none read", x.read(2, 2, 0, 0), 0);
-        Due.is("36 CAST is found when it is taken", x.torn(), 3);
+        // with none to be read it is not taken as of a lane at all
+        for (int lane = 0; lane < 3; lane++) {
+            for (int f : new int[] {0, 2, -1, Integer.MAX_VALUE}) {
+                x.read(2, 1, 0, 1);
+                Due.is("36 CAST ahead", x.torn(), 3);
+                Due.is("35 none read as of lane " + lane + " from " + f + " on", x.read(2, lane, f, 0), 0);
+                Due.is("36 none as of lane " + lane + " from " + f + " on", x.torn(), 0);
+            }
+        }
+        x.sheet(1, 1, 0);
+        Due.is("35 none read of no places, of another lane", x.read(1, 0, 0, 0), 0);
+        Due.is("36 none", x.torn(), 0);
+        Due.is("35 one read of no places, of another lane", x.read(1, 0, 0, 1), 0);
+        Due.is("36 CAST", x.torn(), 3);
     }
 
     private static void readsTorn() {
