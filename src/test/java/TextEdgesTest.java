@@ -35,6 +35,7 @@ public final class TextEdgesTest {
         rules();
         units();
         signs();
+        lastCalls();
         Due.finish();
     }
 
@@ -581,5 +582,18 @@ public final class TextEdgesTest {
         CellsInRow x = Due.told(FIFTEEN + " 18;");
         Due.is("sign(15) of sixteen", x.sign(15), 18);
         Due.is("sign(16) of sixteen", x.sign(16), Edge.BAD);
+    }
+
+    private static void lastCalls() {
+        Due.sentence("An object is used for at most 512 calls after it has been made");
+        CellsInRow x = new CellsInRow();
+        for (int i = 1; i <= 160; i++) {
+            Due.is("call " + i, x.feed("plan 8;".charAt(i % 7)), i);
+        }
+        for (int i = 161; i <= 510; i++) {
+            Due.is("call " + i, x.feed(' '), Edge.FULL);
+        }
+        Due.is("call 511", x.end(0), 160);
+        Due.is("call 512", x.text(), 0);
     }
 }
